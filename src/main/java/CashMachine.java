@@ -25,7 +25,7 @@ public final class CashMachine {
 
     private static final int MOST_FATES = 8;
     private static final int ALL_WELL = 0;
-    private static final int REQUEST_LOST = 1;
+    private static final int SENDING_LOST = 1;
     private static final int ANSWER_LOST = 2;
     private static final int DOUBLED = 3;
 
@@ -183,7 +183,7 @@ public final class CashMachine {
             throw new IllegalStateException();
         }
         int answered = 0;
-        while (answered < pending.size && isReversalAnswered(answered)) {
+        while (answered < pending.size && exchangeReversal(answered)) {
             answered++;
         }
         pending.dropFirst(answered);
@@ -336,7 +336,7 @@ public final class CashMachine {
     /** Answers APPROVED, DECLINED or NO_ANSWER. */
     private int exchangeRequest(Entry entry) {
         int fate = line.takeFirst();
-        if (fate == REQUEST_LOST) {
+        if (fate == SENDING_LOST) {
             return NO_ANSWER;
         }
         boolean approved = host.receiveRequest(entry.trace, entry.account, entry.amount);
@@ -349,9 +349,10 @@ public final class CashMachine {
         return approved ? APPROVED : DECLINED;
     }
 
-    private boolean isReversalAnswered(int index) {
+    /** Answers whether the host's answer came. */
+    private boolean exchangeReversal(int index) {
         int fate = line.takeFirst();
-        if (fate == REQUEST_LOST) {
+        if (fate == SENDING_LOST) {
             return false;
         }
         host.receiveReversal(pending.traces[index], pending.amounts[index]);
@@ -633,7 +634,7 @@ public final class CashMachine {
         }
 
         private void rankLastTwo(Cassette third, Cassette fourth, int amount) {
-            Arrays.fill(rankOfLastTwo, 0, amount + 1, NO_RANK);
+            Arrays.fill(rankOfLastTwo, NO_RANK);
             for (int i = 0; i <= third.notes && i * third.value <= amount; i++) {
                 int rest = amount - i * third.value;
                 for (int j = 0; j <= fourth.notes && j * fourth.value <= rest; j++) {

@@ -70,6 +70,9 @@ final class CassettesTest {
         probe.mixIs(400, 0, 50, 5, 5).mixIs(5000, 10, 0, 0, 0).mixIs(100, 0, 13, 0, 3);
         new Probe("8: all that is there").loaded(0, 25, 50).loaded(1, 25, 50).loaded(2, 25, 50).loaded(3, 25, 50)
                 .mixIs(5000, 50, 50, 50, 50).mixIs(4975, 50, 50, 50, 49);
+        new Probe("8: far more than is asked for").loaded(0, 500, 50).loaded(1, 499, 50).loaded(2, 500, 50)
+                .loaded(3, 499, 50).mixIs(5000, 10, 0, 0, 0).mixIs(4999, 9, 1, 0, 0).mixIs(499, 0, 1, 0, 0)
+                .unsupported("mix(0, 1)", m -> m.mix(0, 1));
         new Probe("8: one note too few").loaded(0, 1, 49).loaded(2, 100, 3)
                 .mixIs(349, 49, 0, 3, 0).unsupported("mix(0, 350)", m -> m.mix(0, 350))
                 .unsupported("mix(0, 50)", m -> m.mix(0, 50));
@@ -111,15 +114,15 @@ final class CassettesTest {
             {6, 8, 10, 8, 15, 8, 15, 3}, {12, 10, 12, 3, 18, 7, 24, 7},
         };
         for (int[] load : loads) {
-            Probe probe = new Probe("8: mix as by search").loaded(0, load[0], load[1]).loaded(1, load[2], load[3])
-                    .loaded(2, load[4], load[5]).loaded(3, load[6], load[7]);
             for (int amount = 1; amount <= 700; amount++) {
-                compareWithSearch(probe, load, amount);
+                compareWithSearch(load, amount);
             }
         }
     }
 
-    private static void compareWithSearch(Probe probe, int[] load, int amount) {
+    private static void compareWithSearch(int[] load, int amount) {
+        Probe probe = new Probe("8: mix as by search").loaded(0, load[0], load[1]).loaded(1, load[2], load[3])
+                .loaded(2, load[4], load[5]).loaded(3, load[6], load[7]);
         int[] best = Model.search(new int[] {load[0], load[2], load[4], load[6]},
                 new int[] {load[1], load[3], load[5], load[7]}, amount);
         if (best == null) {
