@@ -125,8 +125,12 @@ final class ModelTest {
     }
 
     private int amount() {
-        int size = random.nextInt(4);
-        return size == 0 ? around(1, 5000) : size == 1 ? 50 * around(1, 30) : size == 2 ? 10 * around(1, 20) : around(1, 60);
+        return switch (random.nextInt(4)) {
+            case 0 -> around(1, 5000);
+            case 1 -> 50 * around(1, 30);
+            case 2 -> 10 * around(1, 20);
+            default -> around(1, 60);
+        };
     }
 
     /** Mostly within the bounds, and now and then at their edges, one beyond, or far out. */

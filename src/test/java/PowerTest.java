@@ -75,7 +75,7 @@ final class PowerTest {
     private static void powerWaitsForItsPlace() {
         for (int place = 2; place <= 4; place++) {
             Probe probe = failing("11: power " + place + " waits", place);
-            probe.due(CashMachine.DECLINED, "withdraw(0 left)", m -> declined(m));
+            probe.due(CashMachine.DECLINED, "withdraw(20) of a poor account", m -> declined(m));
             probe.due(1, "line(1)", m -> m.line(1)).due(CashMachine.NO_ANSWER, "withdraw(20)", m -> m.withdraw(20));
             probe.due(1, "line(2)", m -> m.line(2)).due(CashMachine.NO_ANSWER, "withdraw(20)", m -> m.withdraw(20));
             probe.due(1, "count(3)", m -> m.count(3));

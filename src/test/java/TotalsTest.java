@@ -2,7 +2,7 @@
 final class TotalsTest {
     public static void main(String[] args) {
         differenceOfEachEnd();
-        differenceMayBeBelowNothing();
+        differenceIsNotMovedByLoadAndOpen();
         differenceOverAllAccounts();
         countOfEach();
         countRefusals();
@@ -23,7 +23,7 @@ final class TotalsTest {
     }
 
     /** Loading and opening are no withdrawals, and what was presented stays presented. */
-    private static void differenceMayBeBelowNothing() {
+    private static void differenceIsNotMovedByLoadAndOpen() {
         Probe probe = new Probe("18: difference stays").loaded(0, 10, 50).session(1, 300);
         probe.due(50, "withdraw(50)", m -> m.withdraw(50)).due(1, "eject()", CashMachine::eject);
         probe.due(450, "load(0, 1, 1)", m -> m.load(0, 1, 1)).due(2, "open(0, 0, 700)", m -> m.open(0, 0, 700));
@@ -46,7 +46,8 @@ final class TotalsTest {
     private static void countOfEach() {
         Probe probe = new Probe("19: count").loaded(0, 10, 50).session(6, 300);
         probe.due(1, "line(1)", m -> m.line(1)).due(2, "line(0)", m -> m.line(0)).due(3, "line(0)", m -> m.line(0));
-        probe.due(CashMachine.NO_ANSWER, "withdraw(20)", m -> m.withdraw(20)).due(50, "withdraw(50)", m -> m.withdraw(50));
+        probe.due(CashMachine.NO_ANSWER, "withdraw(20)", m -> m.withdraw(20));
+        probe.due(50, "withdraw(50)", m -> m.withdraw(50));
         countsAre(probe, 2, 1, 1, 1, 6, 1, 50, 0);
         probe.due(1, "power(4)", m -> m.power(4)).due(CashMachine.POWER, "withdraw(30)", m -> m.withdraw(30));
         countsAre(probe, 3, 1, 0, 0, -1, 0, 80, 0);

@@ -103,7 +103,7 @@ final class WithdrawTest {
     }
 
     private static void refusedWithdrawalsTakeNothing() {
-        Probe probe = new Probe("7: a refused withdrawal takes no fate, jam or failure").loaded(0, 10, 3).session(0, 99);
+        Probe probe = new Probe("7: a refused withdrawal takes nothing").loaded(0, 10, 3).session(0, 99);
         probe.due(1, "line(1)", m -> m.line(1)).due(1, "jam(0)", m -> m.jam(0));
         probe.unsupported("withdraw(40)", m -> m.withdraw(40)).badArgument("withdraw(0)", m -> m.withdraw(0));
         probe.due(CashMachine.NO_ANSWER, "withdraw(10)", m -> m.withdraw(10));
