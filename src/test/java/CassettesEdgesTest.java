@@ -122,7 +122,8 @@ final class CassettesEdgesTest {
         for (int k = 0; k <= 5; k++) {
             int presented = Math.min(k, 4) * 10;
             Run.of("10: a jam of " + k + " stops behind so many notes if there are more", TENS, """
-                jam(%1$d) = 1; withdraw(40) = %2$d; notes(0) = %3$d; trace(1, 0) = 3; trace(1, 3) = %2$d; count(6) = %2$d
+                jam(%1$d) = 1; withdraw(40) = %2$d; notes(0) = %3$d; count(6) = %2$d
+                trace(1, 0) = 3; trace(1, 3) = %2$d
                 """.formatted(k, presented, 50 - presented / 10), "count(1) = " + (k < 4 ? 1 : 0));
         }
         Run.of("10: the greatest jam", """

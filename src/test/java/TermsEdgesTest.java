@@ -161,12 +161,12 @@ final class TermsEdgesTest {
             jam(2) = 1; withdraw(300) = 20; balance(1) = 700; line(3) = 1; settle() = 1; balance(1) = 980
             difference() = 0
             """);
-        Run.of("Terms: or the request was not approved, as it was never seen: nothing happens but that it came", TENS, """
+        Run.of("Terms: or the request was not approved, as it was never seen: nothing happens", TENS, """
             line(1) = 1; withdraw(300) = NO_ANSWER; reversal(0) = 300; settle() = 1; balance(1) = 1000; count(1) = 0
             power(1) = 1; withdraw(300) = POWER; boot() = 1; reversal(0) = 300; line(3) = 1; settle() = 1
             balance(1) = 1000; difference() = 0
             """);
-        Run.of("Terms: or the request was not approved, as it was declined: nothing happens but that it came", """
+        Run.of("Terms: or the request was not approved, as it was declined: nothing happens", """
             open(1, 11, 299) = 1; load(0, 10, 50) = 0; insert(1) = 3; pin(11) = 3
             line(2) = 1; withdraw(300) = NO_ANSWER; balance(1) = 299; trace(1, 0) = 4; reversal(0) = 300
             settle() = 1; balance(1) = 299; count(1) = 0
